@@ -5,6 +5,7 @@ public final class WayTests {
     public static void main(String[] args) {
         promise33Quickest();
         promise34PipesBetween();
+        promise34SlowerByFewerPipes();
         promise35FarthestFrom();
         promise36Centre();
         promise36CentreOfParts();
@@ -66,6 +67,20 @@ public final class WayTests {
         Check.same("quicker by more pipes", 2, x.pipesBetween(2, 0));
         x.turnStairs(4);
         Check.same("no way", -1, x.pipesBetween(0, 5));
+    }
+
+    private static void promise34SlowerByFewerPipes() {
+        RumourPipes x = new RumourPipes();
+        for (int f = 0; f < 3; f++) {
+            x.setStay(f, 0);
+            x.setStairs(f, 1);
+        }
+        x.turnStairs(3);
+        x.turnStairs(4);
+        x.addLift(0, 5, 5, 9);
+        x.addLift(3, 5, 2, 9);
+        Check.same("quickest by three stairs", 3, x.quickest(0, 3));
+        Check.same("two lifts are fewer, but slower", 3, x.pipesBetween(0, 3));
     }
 
     private static void promise35FarthestFrom() {

@@ -4,6 +4,7 @@ public final class WouldBeTests {
 
     public static void main(String[] args) {
         promise39WouldHear();
+        promise39ReachOfARumourUnderWay();
         promises39And40WithinAHundredHours();
         promise40BelieversInTheEnd();
         promise41QuietIn();
@@ -18,6 +19,7 @@ public final class WouldBeTests {
         promise45MeanHeads();
         promise46Digest();
         promise46DigestOfAll();
+        twelveFloors();
         Check.end();
     }
 
@@ -35,6 +37,15 @@ public final class WouldBeTests {
         x.startDenial(0, 1);
         Check.same("wouldHear, heard and denied", 15, x.wouldHear(0, 1));
         Check.same("wouldHear, not told on", -1, x.wouldHear(0, 2));
+    }
+
+    private static void promise39ReachOfARumourUnderWay() {
+        RumourPipes x = new RumourPipes();
+        x.startRumour(0, 2);
+        x.passHours(6);
+        Check.same("wouldHear within the reach", 10, x.wouldHear(0, 2));
+        Check.same("wouldHear, the pipes so far count", -1, x.wouldHear(0, 3));
+        Check.same("believersInTheEnd, the pipes so far count", 30, x.believersInTheEnd(0));
     }
 
     /** The rumour comes to the highest floor in the hour 99 and each stay on the first floor. */
@@ -304,6 +315,26 @@ public final class WouldBeTests {
             }
         }
         Check.same("digest of all", d[0], x.digest());
+    }
+
+    private static void twelveFloors() {
+        RumourPipes x = new RumourPipes();
+        x.build(12);
+        x.startRumour(0, 20);
+        x.passHours(57);
+        Check.same("reached, the hour is 57", 12, x.reached(0));
+        Check.same("underWay, to the one below the highest when that tells on", 0, x.underWay(0));
+        x.passHours(1);
+        Check.same("underWay then", 1, x.underWay(0));
+        Check.same("believers", 120, x.believers(0));
+        Check.same("quietIn", 3, x.quietIn(0));
+        Check.same("bestDenial", 0, x.bestDenial(0));
+        Check.same("bestStairsToShut", -1, x.bestStairsToShut(0));
+        Check.same("believersWith the highest", 0, x.believersWith(0, 11));
+        Check.same("parts", 1, x.parts());
+        Check.same("neighbours of the highest", 1, x.neighbours(11));
+        Check.same("farthestFrom the highest", 0, x.farthestFrom(11));
+        Check.same("meanHeads", 10.0, x.meanHeads());
     }
 
     private static void mix(long[] d, int... numbers) {

@@ -71,16 +71,18 @@ public final class WayTests {
 
     private static void promise34SlowerByFewerPipes() {
         RumourPipes x = new RumourPipes();
-        for (int f = 0; f < 3; f++) {
+        x.build(7);
+        for (int f = 0; f < 5; f++) {
             x.setStay(f, 0);
             x.setStairs(f, 1);
         }
-        x.turnStairs(3);
-        x.turnStairs(4);
-        x.addLift(0, 5, 5, 9);
-        x.addLift(3, 5, 2, 9);
-        Check.same("quickest by three stairs", 3, x.quickest(0, 3));
-        Check.same("two lifts are fewer, but slower", 3, x.pipesBetween(0, 3));
+        x.turnStairs(5);
+        x.addLift(0, 6, 6, 9);
+        x.addLift(4, 6, 2, 9);
+        Check.same("quickest by four stairs", 4, x.quickest(0, 4));
+        Check.same("two lifts are fewer, but slower", 4, x.pipesBetween(0, 4));
+        Check.same("quickest by five stairs", 5, x.quickest(0, 5));
+        Check.same("two lifts and stairs are slower", 5, x.pipesBetween(0, 5));
     }
 
     private static void promise35FarthestFrom() {

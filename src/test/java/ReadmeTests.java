@@ -35,7 +35,7 @@ public final class ReadmeTests {
         }
         Check.is("the page tells how to run all tests", commands.remove(ALL_TESTS));
         Check.is(ALL_TESTS + " can be run", Files.isExecutable(Path.of(ALL_TESTS)));
-        Check.same("other commands", 6, commands.size());
+        Check.same("other commands", 4, commands.size());
         StringBuilder printed = new StringBuilder();
         for (String command : commands) {
             printed.append(printedBy(command));
